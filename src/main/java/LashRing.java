@@ -37,7 +37,7 @@ public final class LashRing {
 
     private final byte[] tape = new byte[MOST_BYTES];
     private int taped = 0;
-    private final Reader reader = new Reader(tape);
+    private final Reader reader = new Reader();
     private Butt target = new Butt();
     private final State now = new State();
     private final State trial = new State();
@@ -87,7 +87,7 @@ public final class LashRing {
             return BAD_NUMBER;
         }
         taped = 0;
-        Butt told = reader.read(n);
+        Butt told = reader.read(tape, n);
         if (told == null) {
             return BAD_TEXT - reader.fault;
         }
@@ -1475,14 +1475,9 @@ public final class LashRing {
         static final int MINUTE = WORD + 20;
         static final int HURT = WORD + 21;
 
-        private final byte[] text;
         /** Of each what it is, and in the lowest bits where it begins. */
         private final int[] tokens = new int[MOST_BYTES + 1];
         private int size = 0;
-
-        Tokens(byte[] text) {
-            this.text = text;
-        }
 
         int at(int i) {
             return i >= 0 && i < size && i < tokens.length ? tokens[i] >> START_BITS : END;
@@ -1493,7 +1488,7 @@ public final class LashRing {
         }
 
         /** The last token is the end. */
-        void scan(int n) {
+        void scan(byte[] text, int n) {
             int length = Math.max(0, Math.min(n, text.length));
             size = 0;
             int start = 0;
@@ -1504,12 +1499,12 @@ public final class LashRing {
                     while (behind < length && isSmall(text[behind])) {
                         behind++;
                     }
-                    add(wordOf(start, behind), start);
+                    add(wordOf(text, start, behind), start);
                 } else if (isDigit(b)) {
                     while (behind < length && isDigit(text[behind])) {
                         behind++;
                     }
-                    add(numberOf(start, behind), start);
+                    add(numberOf(text, start, behind), start);
                 } else if (b != 10 && b != 32) {
                     add(b > 0 && SIGNS.indexOf((char) b) >= 0 ? SIGN + b : BAD, start);
                 }
@@ -1533,25 +1528,25 @@ public final class LashRing {
             return b >= '0' && b <= '9';
         }
 
-        private int numberOf(int start, int behind) {
+        private static int numberOf(byte[] text, int start, int behind) {
             if (behind - start > 3) {
                 return BAD;
             }
             int value = 0;
-            for (int i = start; i < behind && i < text.length; i++) {
+            for (int i = Math.max(0, start); i < behind && i < text.length; i++) {
                 value = value * 10 + text[i] - '0';
             }
             return value;
         }
 
-        private int wordOf(int start, int behind) {
+        private static int wordOf(byte[] text, int start, int behind) {
             int word = WORD;
             int next = start;
             boolean alike = true;
             for (int i = 0; i < WORDS.length(); i++) {
                 char c = WORDS.charAt(i);
                 if (c != ' ') {
-                    alike = alike && next < behind && next < text.length && text[next] == c;
+                    alike = alike && next >= 0 && next < behind && next < text.length && text[next] == c;
                     next++;
                 } else if (alike && next == behind) {
                     return word;
@@ -1573,7 +1568,7 @@ public final class LashRing {
         private static final int ONE_TOO_MANY = 4;
         private static final int MOST_WITHIN = 6;
 
-        private final Tokens tokens;
+        private final Tokens tokens = new Tokens();
         private int at = 0;
         /** The token at hand; none is once there is a fault, so that nothing more is read. */
         private int token = NONE;
@@ -1583,15 +1578,11 @@ public final class LashRing {
         int fault = 0;
         int place = NONE;
 
-        Reader(byte[] text) {
-            tokens = new Tokens(text);
-        }
-
         /** null: there is a fault. */
-        Butt read(int n) {
+        Butt read(byte[] text, int n) {
             fault = 0;
             place = NONE;
-            tokens.scan(n);
+            tokens.scan(text, n);
             at = 0;
             token = tokens.at(0);
             Butt made = new Butt();

@@ -136,6 +136,15 @@ public final class AimsTest {
         Check.due("no shooter ahead of n", x.leaves(1, 100), -2);
         Check.due("n", x.leaves(0, 100), -3);
         Check.due("n", x.leaves(0, -1), -3);
+        LashRing y = Check.ring("butt eye 0 0;top 99 falls 1 cost 5;shooter shake 0;strays:if age<9 then 0 else 0-9 end;");
+        // At 9 the shot still lands beside the eye from 10 on: only the law of an older one could change that.
+        Check.due("99 is enough", y.leaves(0, 99), 0);
+        Check.due("98 at no age", y.leaves(0, 98), -1);
+        LashRing z = Check.ring("butt eye 0 9;top 99 falls 99 cost 5;shooter shake 0;strays:if age<9 then 0 else 9*aim-99*aim end;");
+        Check.due("at 9 alone, none at all", z.leaves(0, 0), -1);
+        LashRing w = Check.ring("butt eye 0 12;top 99 falls 99 cost 5;shooter shake 0;strays:if age<9 then 0 else 0-9 end;");
+        Check.due("at 9 all touch", w.leaves(0, 0), 9);
+        Check.due("at 9 all touch", w.leaves(0, 98), 9);
         x.shoot(0, 9, 9);
         Check.due("all else as now: its age is told", x.leaves(0, 7), 3);
     }
@@ -145,5 +154,11 @@ public final class AimsTest {
         Check.due("greedy()", x.greedy(), 5);
         x.waits(1);
         Check.due("open or not", x.greedy(), 5);
+        // At 9 one LOT touches for nothing, 9 * 20 in all; at 11 there is one 0 instead: like ones.
+        LashRing y = Check.ring("butt eye 10 10;top 20 falls 20 cost 0;shooter shake 0;strays:if lot=0 then 1 else 0 end;");
+        Check.due("by one LOT", y.greedy(), 1);
+        LashRing z = Check.ring("butt eye 10 10;top 20 falls 19 cost 0;shooter shake 0;strays:if lot=0 then 1 else 0 end;");
+        Check.due("none", z.greedy(), 0);
+        Check.due("no shooters", new LashRing().greedy(), 0);
     }
 }

@@ -77,6 +77,11 @@ public final class ButtTest {
         Check.due("no aim", x.lands(0, -1, 0), -2);
         Check.due("no lot", x.lands(0, 0, 10), -2);
         Check.due("no lot", x.lands(0, 0, -1), -2);
+        LashRing a = Check.ring("butt eye 3 3;top 9 falls 9 cost 0;shooter shake 0;strays:3-aim;");
+        for (int aim = 0; aim <= 12; aim++) {
+            Check.due("all at 3 from " + aim, a.lands(0, aim, 0), 3);
+            Check.due("all touch from " + aim, a.touches(0, aim), 10);
+        }
         LashRing y = Check.ring("butt eye 0 0;top 1 falls 0 cost 0;shooter shake 0;strays:age*2+wind;");
         Check.due("young", y.lands(0, 5, 0), 5);
         y.shoot(0, 5, 0);

@@ -122,7 +122,7 @@ public final class DeedsTest {
         Check.due("undone as a whole", x.undo(1), 0);
         Check.due("minute", x.count(7), 0);
         Check.due("points", x.points(0), 0);
-        long[] cannot = {2, 9, 20, -1, 9999, 30000, 50000, 12100, 10010, 10099, 19900, Long.MIN_VALUE, 1L << 32};
+        long[] cannot = {2, 9, 20, -1, 9999, 30000, 50000, 12100, 10010, 10099, 19900, Long.MIN_VALUE, 1L << 32, (1L << 32) + 10000};
         for (long v : cannot) {
             Check.tray(x, 2, 3, 0, v, 0);
             Check.due("judge " + v, x.judge(2, 0), 1);
@@ -134,8 +134,12 @@ public final class DeedsTest {
             Check.due("none done " + v, x.perform(2), 0);
             Check.due("nothing to undo " + v, x.count(9), 0);
         }
-        Check.tray(x, 3, 1, 1, 10, 12009, 22000);
-        Check.due("edges", x.perform(3), 4);
+        Check.tray(x, 3, 1, 1, 10, 10000, 12009, 22000);
+        Check.due("edges", x.perform(3), 5);
+        LashRing y = Check.ring("butt eye 9 11;shooter shake 0;shooter shake 0;shooter shake 0;shooter shake 0;");
+        Check.tray(y, 0, 2, 42009, 40000, 42010);
+        Check.due("the last shooter", y.perform(0), 2);
+        Check.due("its age", y.shooter(3, 1), 2);
     }
 
     private static void days() {
@@ -143,6 +147,13 @@ public final class DeedsTest {
         Check.due("day(1, 0)", x.day(1, 0), -3);
         Check.due("day(1, 41)", x.day(1, 41), -3);
         Check.due("day(1, -1)", x.day(1, -1), -3);
+        for (int times = 1; times <= 40; times++) {
+            LashRing once = Check.ring(TEXT);
+            int did = once.day(times * 77777, times);
+            LashRing twice = Check.ring("butt eye 9 11;shooter shake 0;shooter shake 0;shooter shake 0;shooter shake 0;");
+            Check.due("all could be", twice.day(times * 77777, times), times);
+            Check.due("not all could be", did <= times ? 1 : 0, 1);
+        }
         LashRing y = Check.ring(TEXT);
         int seed = -7;
         int done = 0;

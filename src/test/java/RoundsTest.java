@@ -79,6 +79,24 @@ public final class RoundsTest {
         LashRing w = Check.ring("butt eye 0 0;top 0 falls 0 cost 5;shooter shake 0;opens:hurt=0;");
         Check.due("no gain", w.round(0, 4, 0), 0);
         Check.due("the first of like ones", w.begins(0, 4), 1);
+        LashRing u = Check.ring("butt eye 0 11;top 9 falls 1 cost 5;shooter shake 0;strays:age+0-8;");
+        // Beside the eye is 12: from 20 while young, from 19 at the age of 1, and so on.
+        Check.due("each time at another aim", u.round(0, 4, 0), 36);
+        LashRing t = Check.ring("butt eye 0 19;top 9 falls 1 cost 5;shooter shake 0;strays:0-2+if age=2 then 2 else 0 end;opens:1=2;");
+        Check.due("the third shot alone", t.round(0, 2, 0), 0);
+        Check.due("the third shot alone", t.round(0, 3, 0), 9);
+        Check.due("then it waits or touches", t.round(0, 4, 0), 9);
+        // The eye opens later on, and being hurt twice opens it no more.
+        LashRing q = Check.ring("butt eye 0 20;top 9 falls 1 cost 5;shooter shake 0;opens:minute>1;");
+        Check.due("nothing is lost", q.round(0, 4, 0), 0);
+        Check.due("an aim while it is shut", q.begins(0, 4), 0);
+        q.waits(2);
+        Check.due("to wait while it is open", q.begins(0, 4), 21);
+        LashRing p = Check.ring("butt eye 0 11;top 60 falls 60 cost 10;shooter shake 0;strays:if age<2 then 0-9 else 0-8 end;"
+            + "opens:hurt<1;");
+        // Two young shots: one costs 10 and hurts, the next one is free; then 60 a turn.
+        Check.due("hurt but once", p.round(0, 3, 0), 50);
+        Check.due("hurt but once", p.round(0, 4, 0), 110);
         // The age goes no further than 9.
         LashRing v = Check.ring("butt eye 0 0;top 9 falls 9 cost 5;shooter shake 0;strays:if age<10 then 0 else 9 end;");
         for (int i = 0; i < 9; i++) {

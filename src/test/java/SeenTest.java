@@ -91,6 +91,17 @@ public final class SeenTest {
         Check.due("two of them", y.shooters(0, 13), 6);
         // These two part by 5 to 12; from 13 on they meet.
         Check.due("the two", y.tells(0, 13), 5);
+        // The two part by 20 alone.
+        LashRing z = Check.ring("butt eye 9 11;shooter shake 1;shooter shake 2;strays:if aim=20 then 0-shake else 0 end;");
+        Check.tray(z, 0, 0, 3);
+        Check.due("the last aim", z.tells(0, 3), 20);
+        LashRing w = Check.ring("butt eye 9 11;shooter shake 1;shooter shake 2;strays:if aim=1 then shake else lot end;");
+        Check.tray(w, 0, 0, 8);
+        Check.due("the second aim", w.tells(0, 3), 1);
+        LashRing v = Check.ring("butt eye 9 11;shooter shake 1;shooter shake 2;"
+            + "strays:if lot=0 or aim=4 then 5 else if lot<9 and aim<4 then shake else shake end end;");
+        Check.tray(v, 0, 0, 10);
+        Check.due("one LOT is enough to meet", v.tells(0, 5), 0);
         Check.tray(y, 0, 0, 14);
         Check.due("one alone", y.shooters(0, 13), 1);
         Check.due("any will do", y.tells(0, 13), 0);
@@ -140,6 +151,16 @@ public final class SeenTest {
         Check.due("4 alone", x.winds(0, 0, 10), 0b10000);
         Check.due("any will do", x.attempt(0, 0, 10), 0);
         Check.due("the wind stays", x.count(6), 7);
+        Check.tray(x, 0, 1, 0);
+        Check.due("LOT 0 on PLACE 0", x.winds(0, 0, 0), 1);
+        LashRing z = Check.ring("butt eye 9 11;shooter shake 0;strays:if lot=1 then wind else if lot=9 and wind>0 then 1 else 0 end end;");
+        Check.tray(z, 0, 1, 0);
+        Check.due("all winds", z.winds(0, 0, 0), 1023);
+        Check.due("LOT 1 tells all", z.attempt(0, 0, 0), 1);
+        Check.tray(z, 0, 1, 901);
+        Check.due("all but 0", z.winds(0, 0, 0), 1022);
+        Check.tray(z, 0, 1, 900, 100);
+        Check.due("0 alone", z.winds(0, 0, 0), 1);
         LashRing y = Check.ring("butt eye 9 11;shooter shake 0;");
         Check.tray(y, 0, 1, 10);
         Check.due("no law, no wind", y.winds(0, 0, 10), 1023);

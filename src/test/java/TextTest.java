@@ -18,8 +18,8 @@ public final class TextTest {
     private static void whatCanBe() {
         Check.good(B, 1);
         Check.good("butt eye 0 20;", 1);
+        Check.good("butt eye 20 20;", 1);
         Check.good("\n butt\neye\n007 7 ;\n ", 1);
-        Check.good("butteye 1 1;".replace("butteye", "butt eye"), 1);
         Check.good("butt eye1 1;wind9;", 2);
         Check.good(B + "top 0 falls 0 cost 0;top 99 falls 99 cost 99;", 3);
         Check.good(B + "shooter shake 0;shooter shake 9;shooter shake 1;shooter shake 2;", 5);
@@ -66,6 +66,8 @@ public final class TextTest {
         Check.fault("butts eye 1 1;", 2, 0);
         Check.fault("but eye 1 1;", 2, 0);
         Check.fault("butteye 1 1;", 2, 0);
+        Check.fault(B + "zoo;", 2, 13);
+        Check.fault(B + "azaz;", 2, 13);
         Check.fault("butt eye;", 2, 8);
         Check.fault("butt eye 1 1 1;", 2, 13);
         Check.fault("butt eye 1 1  ", 2, 14);
@@ -138,6 +140,12 @@ public final class TextTest {
         Check.fault(B + "opens:[not[not[(1+(1))=1]]];", 4, 31);
         Check.fault(B + "strays:((((((if 1=1 then 1 else 2 end))))));", 4, 26);
         Check.fault(B + "strays:((((((1+(2)))))));", 4, 28);
+        String ifs = "if 1=1 then if 1=1 then if 1=1 then if 1=1 then if 1=1 then if 1=1 then ";
+        Check.fault(B + "strays:" + ifs + "if", 4, 20 + ifs.length());
+        Check.fault(B + "strays:" + ifs + "(", 4, 20 + ifs.length());
+        Check.good(B + "strays:" + ifs + "1" + " else 1 end".repeat(6) + ";", 2);
+        String within = "if 1=if 1=if 1=if 1=if 1=if 1=";
+        Check.fault(B + "strays:" + within + "if", 4, 20 + within.length());
         Check.good(B + "strays:((((((1))))))+((((((1))))))*((((((1))))));", 2);
         Check.good(B + "opens:not(((((1)))))=(((((1)))));", 2);
         Check.fault(B + "opens:not((((((1))))))=1;", 4, 27);
