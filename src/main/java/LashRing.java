@@ -501,8 +501,11 @@ public final class LashRing {
         }
         Table table = tableNow(s);
         int hand = aim;
-        for (int depth = 2; depth <= d; depth += 2) {
-            hand = nextHand(table, hand);
+        boolean rested = false;
+        for (int depth = 2; depth <= d && !rested; depth += 2) {
+            int next = nextHand(table, hand);
+            rested = next == hand;
+            hand = next;
         }
         if ((d & 1) == 0) {
             return hand;
@@ -1213,9 +1216,12 @@ public final class LashRing {
 
         int best(int cost) {
             int first = 0;
+            int most = sum(0, cost);
             for (int aim = 1; aim < PLACES; aim++) {
-                if (sum(aim, cost) > sum(first, cost)) {
+                int sum = sum(aim, cost);
+                if (sum > most) {
                     first = aim;
+                    most = sum;
                 }
             }
             return first;
@@ -1412,7 +1418,7 @@ public final class LashRing {
             Arrays.fill(spare, 0);
             for (int i = 0; i < aheads.length; i++) {
                 if (aheads[i] != 0) {
-                    spread(i);
+                    spread(i, aheads[i]);
                 }
             }
             int[] old = aheads;
@@ -1421,11 +1427,11 @@ public final class LashRing {
             ways *= LOTS;
         }
 
-        private void spread(int from) {
+        private void spread(int from, int times) {
             for (int lot = 0; lot < LOTS; lot++) {
                 int to = from + steps[lot];
-                if (from >= 0 && from < aheads.length && to >= 0 && to < spare.length) {
-                    spare[to] += aheads[from];
+                if (to >= 0 && to < spare.length) {
+                    spare[to] += times;
                 }
             }
         }
