@@ -2,21 +2,50 @@
 final class Check {
     private static int done = 0;
     private static int wrong = 0;
+    /** The sentence by which answers are due at the moment, and how many were since it was told. */
+    private static String sentence = "";
+    private static int since = 0;
 
     private Check() {
     }
 
     static void due(String call, long got, long want) {
         done++;
+        since++;
         if (got != want) {
             wrong++;
             if (wrong <= 50) {
-                System.out.println(call + " answered " + got + ", due is " + want);
+                System.out.println(sentence + call + " answered " + got + ", due is " + want);
             }
         }
     }
 
+    /** What is due from here on is due by this sentence of a promise. */
+    static void promise(int number, String words) {
+        endSentence();
+        sentence = "[promise " + number + ": " + words + "] ";
+        due("stands in the document", Doc.tell(number, words) ? 1 : 0, 1);
+        since = 0;
+    }
+
+    /** What is due from here on is due by this sentence of the Terms, which a promise goes by. */
+    static void terms(int number, String words) {
+        endSentence();
+        sentence = "[Terms, promise " + number + ": " + words + "] ";
+        due("stands in the document", Doc.tell(Doc.TERMS, words) ? 1 : 0, 1);
+        since = 0;
+    }
+
+    /** A sentence by which nothing is due has no test. */
+    static void endSentence() {
+        if (!sentence.isEmpty() && since == 0) {
+            due("has a test", 0, 1);
+        }
+        sentence = "";
+    }
+
     static void end(String name) {
+        endSentence();
         System.out.println(name + ": " + done + " answers, " + wrong + " wrong");
         if (wrong != 0 || done == 0) {
             System.exit(1);
