@@ -124,6 +124,13 @@ final class RoundsEdges {
         round(later, 4, 0, 1, 0);
         later.waits(2);
         round(later, 4, 0, 1, 21);
+        // Its first SHOT can't but touch, which costs 10 in MINUTE 0; being older it lands on 12 from 20 for 60.
+        LashRing dear = Check.ring("butt eye 0 11;top 60 falls 60 cost 10;shooter shake 0;opens:minute=0;"
+            + "strays:if age=0 then 0-9 else 0-8 end;");
+        round(dear, 1, 0, 1, 21);
+        round(dear, 2, 50, 1, 0);
+        round(dear, 3, 110, 1, 0);
+        round(dear, 4, 170, 1, 0);
         // Older by each SHOT, nine at most.
         LashRing w = Check.ring("butt eye 0 0;top 9 falls 9 cost 5;shooter shake 0;strays:if age=9 then 0 else 9 end;opens:1=2;");
         for (int i = 0; i < 8; i++) {
