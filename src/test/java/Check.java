@@ -24,15 +24,20 @@ final class Check {
     static void promise(int number, String words) {
         endSentence();
         sentence = "[promise " + number + ": " + words + "] ";
-        due("stands in the document", Doc.tell(number, words) ? 1 : 0, 1);
-        since = 0;
+        lookUp(number, words);
     }
 
     /** What is due from here on is due by this sentence of the Terms, which a promise goes by. */
     static void terms(int number, String words) {
         endSentence();
         sentence = "[Terms, promise " + number + ": " + words + "] ";
-        due("stands in the document", Doc.tell(Doc.TERMS, words) ? 1 : 0, 1);
+        lookUp(Doc.TERMS, words);
+    }
+
+    private static void lookUp(int section, String words) {
+        if (Doc.isThere()) {
+            due("stands in the document", Doc.tell(section, words) ? 1 : 0, 1);
+        }
         since = 0;
     }
 

@@ -11,6 +11,7 @@ final class Doc {
     /** The number of the section "Terms"; the others are the promises'. */
     static final int TERMS = 0;
     static final int LAST = 47;
+    private static final Path PATH = Path.of("../shared/DOC.md");
 
     private static final Map<Integer, String> SECTIONS = new TreeMap<>();
     private static final Map<Integer, boolean[]> TOLD = new TreeMap<>();
@@ -52,13 +53,18 @@ final class Doc {
         return pieces;
     }
 
+    /** Whether the document lies beside the checkout; without it the answers are compared all the same. */
+    static boolean isThere() {
+        return Files.isReadable(PATH);
+    }
+
     private static void read() {
         if (!SECTIONS.isEmpty()) {
             return;
         }
         String doc;
         try {
-            doc = Files.readString(Path.of("../shared/DOC.md"));
+            doc = Files.readString(PATH);
         } catch (IOException e) {
             throw new IllegalStateException("the document can't be read", e);
         }

@@ -11,12 +11,20 @@ public final class EdgesTest {
         TraysEdges.all();
         RefusedEdges.all();
         Check.endSentence();
+        if (Doc.isThere()) {
+            noSentenceIsLeft();
+        } else {
+            System.out.println("no document beside the checkout: its sentences are not looked up");
+        }
+        Check.end("EdgesTest");
+    }
+
+    private static void noSentenceIsLeft() {
         for (int section = Doc.TERMS; section <= Doc.LAST; section++) {
             String name = section == Doc.TERMS ? "Terms" : "promise " + section;
             for (String piece : Doc.left(section)) {
                 Check.due("[" + name + "] no test tells '" + piece + "': tests", 0, 1);
             }
         }
-        Check.end("EdgesTest");
     }
 }
