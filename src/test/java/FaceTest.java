@@ -8,6 +8,8 @@ import java.nio.file.Path;
 import java.util.Random;
 import java.util.Set;
 import java.util.TreeSet;
+import java.util.regex.Matcher;
+import java.util.regex.Pattern;
 
 /** The public face, rules of LANGUAGE.md that can be looked for in the source, calls with any arguments, the room. */
 public final class FaceTest {
@@ -30,7 +32,7 @@ public final class FaceTest {
         Check.end("FaceTest");
     }
 
-    private static void face() {
+    private static void face() throws Exception {
         Set<String> met = new TreeSet<>();
         Set<String> names = new TreeSet<>();
         for (Method m : LashRing.class.getDeclaredMethods()) {
@@ -44,7 +46,10 @@ public final class FaceTest {
                 Check.due("static " + m, Modifier.isStatic(m.getModifiers()) ? 1 : 0, 0);
             }
         }
-        Check.due("the public methods", met.equals(new TreeSet<>(Set.of(FACE.split("\\|")))) ? 1 : 0, 1);
+        Set<String> face = new TreeSet<>(Set.of(FACE.split("\\|")));
+        Check.due("the public methods", met.equals(face) ? 1 : 0, 1);
+        Check.due("NONE", LashRing.NONE, -1);
+        documentsFace(face);
         for (Method m : LashRing.class.getDeclaredMethods()) {
             if (!Modifier.isPublic(m.getModifiers()) && !m.isSynthetic()) {
                 Check.due(m + " is private", Modifier.isPrivate(m.getModifiers()) ? 1 : 0, 1);
@@ -72,13 +77,28 @@ public final class FaceTest {
         }
     }
 
+    /** The face that this test knows is the document's. */
+    private static void documentsFace(Set<String> face) throws Exception {
+        Path doc = Path.of("../shared/DOC.md");
+        if (!Files.isReadable(doc)) {
+            System.out.println("no document beside the checkout: its face is not looked up");
+            return;
+        }
+        Set<String> told = new TreeSet<>();
+        Matcher call = Pattern.compile("(?m)^    public (int|long) (\\w+)\\((.*)\\);$").matcher(Files.readString(doc));
+        while (call.find()) {
+            told.add(call.group(1) + " " + call.group(2) + "(" + call.group(3).replaceAll(" \\w+(, )?", " ").trim() + ")");
+        }
+        Check.due("the document's face " + told, told.equals(face) ? 1 : 0, 1);
+    }
+
     private static void source(String text) {
         String code = text.replaceAll("(?s)/\\*.*?\\*/", " ").replaceAll("//[^\n]*", " ").replaceAll("\"[^\"\n]*\"", "\"\"");
         String[] none = {"\\bthrow\\b", "\\bthrows\\b", "\\btry\\b", "\\bcatch\\b", "\\bsynchronized\\b", "\\bassert\\b", "->",
             "::", "Exact\\b", "\\bprotected\\b", "\\bpackage\\b", "\\bObject\\b", "\\bThread\\b", "\\bSystem\\b", "\\bRandom\\b",
             "\\bequals\\b", "\\bhashCode\\b", "\\btoString\\b", "\"\"\\s*\\+", "\\+\\s*\"\"", "\\bvar\\b"};
         for (String word : none) {
-            Check.due("in the source: " + word, java.util.regex.Pattern.compile(word).matcher(code).find() ? 1 : 0, 0);
+            Check.due("in the source: " + word, Pattern.compile(word).matcher(code).find() ? 1 : 0, 0);
         }
         int imports = 0;
         int longest = 0;
